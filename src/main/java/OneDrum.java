@@ -229,7 +229,7 @@ public final class OneDrum {
             case 2:
                 return drum.sound[k];
             case 3:
-                return drum.isEcho[k] ? 1 : 0;
+                return drum.echoesAt(k) ? 1 : 0;
             default:
                 return NO_SUCH;
         }
@@ -1029,7 +1029,7 @@ public final class OneDrum {
                     goesOn = readVillageLine(word, linePlace);
                     break;
             }
-            return goesOn && takeKind(SEMICOLON_TOKEN);
+            return goesOn && takeSemicolon();
         }
 
         private boolean readWarLine(int word, int linePlace) {
@@ -1263,23 +1263,42 @@ public final class OneDrum {
 
         /** Takes a number, as NONE with a fault if it is out of its bounds; false if it is no number. */
         private boolean takeNumber(int least, int most) {
-            if (kind == NUMBER_TOKEN && (value < least || value > most)) {
-                note(2, place);
-                value = NONE;
+            if (kind != NUMBER_TOKEN) {
+                return false;
             }
-            return takeKind(NUMBER_TOKEN);
+            taken = value;
+            if (value < least || value > most) {
+                taken = NONE;
+                note(2, place);
+            }
+            next();
+            return true;
         }
 
         private boolean takeBeat() {
-            return isBeatHere() && takeKind(WORD_TOKEN);
+            if (!isBeatHere()) {
+                return false;
+            }
+            taken = value;
+            next();
+            return true;
         }
 
         private boolean takeMove() {
             if (!isMoveHere()) {
                 return false;
             }
-            value -= FIRST_MOVE;
-            return takeKind(WORD_TOKEN);
+            taken = value - FIRST_MOVE;
+            next();
+            return true;
+        }
+
+        private boolean takeSemicolon() {
+            if (kind != SEMICOLON_TOKEN) {
+                return false;
+            }
+            next();
+            return true;
         }
 
         private boolean isBeatHere() {
@@ -1288,15 +1307,6 @@ public final class OneDrum {
 
         private boolean isMoveHere() {
             return kind == WORD_TOKEN && value >= FIRST_MOVE && value < FIRST_MOVE + MOVE_KINDS;
-        }
-
-        private boolean takeKind(int wanted) {
-            if (kind != wanted) {
-                return false;
-            }
-            taken = value;
-            next();
-            return true;
         }
 
         private void note(int fault, int where) {
@@ -1431,6 +1441,14 @@ public final class OneDrum {
                 giver[length] = who;
                 length++;
             }
+        }
+
+        boolean wasGivenBy(int who, int place) {
+            return place >= 0 && place < length && giver[place] == who;
+        }
+
+        boolean echoesAt(int place) {
+            return place >= 0 && place < length && isEcho[place];
         }
 
         int restsGiven() {
@@ -1580,7 +1598,7 @@ public final class OneDrum {
         int foreignness(int k, int army, Drum drum) {
             int own = 0;
             for (int i = 0; i < lengths[k]; i++) {
-                own += drum.giver[placeOf(firsts[k] + i)] == army ? 1 : 0;
+                own += drum.wasGivenBy(army, placeOf(firsts[k] + i)) ? 1 : 0;
             }
             if (own == lengths[k]) {
                 return 0;
@@ -1593,7 +1611,7 @@ public final class OneDrum {
             for (int k = 0; k < moveCount; k++) {
                 boolean echoed = false;
                 for (int i = 0; i < lengths[k]; i++) {
-                    echoed |= drum.isEcho[placeOf(firsts[k] + i)];
+                    echoed |= drum.echoesAt(placeOf(firsts[k] + i));
                 }
                 many += echoed ? 1 : 0;
             }

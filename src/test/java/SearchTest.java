@@ -80,6 +80,8 @@ public final class SearchTest {
         CHECK.due("another what", x.bribes(0, 0, 0, -1), NONE);
         Check.text(x, 1, 0, "gives 0 tap;");
         CHECK.due("such", x.bribes(0, 0, 0, 0), 1);
+        CHECK.due("another what", x.bribes(0, 0, 0, 3), NONE);
+        CHECK.due("another what", x.bribes(0, 0, 0, -1), NONE);
         CHECK.due("none such", x.bribes(1, 0, 0, 0), NONE);
         CHECK.due("none such", x.bribes(0, 1, 0, 0), NONE);
         CHECK.due("none such", x.bribes(0, 0, 1, 0), NONE);

@@ -133,6 +133,18 @@ public final class TextsTest {
         faults(0, "order 0 tap;", 1, 8);
         faults(0, "order 0 halt;", 1, 12);
         faults(0, "order 0 halt left;", 1, 13);
+        faults(0, "order;", 1, 5);
+        faults(0, "order 0;", 1, 7);
+        faults(0, "order 0 turn tap;", 1, 8);
+        faults(0, "order 0 roll tap;", 1, 8);
+        faults(0, "order 0 left halt;", 1, 13);
+        faults(0, "wet halt tap;", 1, 4);
+        faults(0, "wet;", 1, 3);
+        faults(0, "turn;", 1, 4);
+        faults(0, "from;", 1, 4);
+        faults(0, times(600, ";"), 1, 0);
+        faults(0, times(66, "tired 3; ") + "turn 2", 1, 600);
+        fine(0, times(66, "tired 3; ") + "turn2;");
         faults(0, "order 0 halt tap tap tap tap tap;", 3, 29);
         faults(0, "order 0 halt tap tap tap tap tap tap;", 3, 29);
         faults(0, times(7, "order 0 left tap;"), 3, 6 * 17);
@@ -155,6 +167,9 @@ public final class TextsTest {
         faults(1, "gives 0 tap left;", 1, 12);
         faults(1, "gives 0 tap", 1, 11);
         faults(1, "gives tap;", 1, 6);
+        faults(1, "gives;", 1, 5);
+        faults(1, "gives 0 halt;", 1, 8);
+        faults(1, "gives 0 tap halt;", 1, 12);
         faults(1, "gives 2 tap;", 2, 6);
         faults(1, "gives 12 tap;", 2, 6);
         faults(1, "gives 0" + times(13, " tap") + ";", 3, 56);
@@ -170,6 +185,8 @@ public final class TextsTest {
         faults(2, "made 0 tap;", 1, 7);
         faults(2, "made 2;", 2, 5);
         faults(2, "made;", 1, 4);
+        faults(2, "made 0 turn;", 1, 7);
+        faults(2, "made 0 roll;", 1, 7);
         faults(2, "made 0", 1, 6);
         faults(2, "made 1" + times(7, " left") + ";", 3, 37);
         faults(2, "gives 0 tap;", 1, 0);
@@ -195,6 +212,10 @@ public final class TextsTest {
         faults(3, "swap 8 tap flam roll;", 1, 16);
         faults(3, "twice 8 tap tap;", 1, 12);
         faults(3, "twice 8;", 1, 7);
+        faults(3, "twice 8 halt;", 1, 8);
+        faults(3, "swap 8 tap halt;", 1, 11);
+        faults(3, "last;", 1, 4);
+        faults(3, "swap 8;", 1, 6);
         faults(3, "last 8 1;", 1, 7);
         faults(3, times(9, "last 8;"), 3, 56);
         faults(3, times(8, "last 8;") + "drop 7 0;", 3, 56);
@@ -386,6 +407,9 @@ public final class TextsTest {
         CHECK.due("told", x.told(0, 0, NONE), NONE);
         CHECK.due("fault", x.fault(0), 0);
         CHECK.due("tape", x.end(1), NONE);
+        CHECK.due("image(0)", x.image(0), true);
+        CHECK.due("again(0)", x.again(0), true);
+        CHECK.due("turn", x.war(1, 0), 4);
         CHECK.due("image(1) anew", x.image(1), true);
         Check.text(x, 0, 1, "turn 3;");
         CHECK.due("again(1)", x.again(1), true);
