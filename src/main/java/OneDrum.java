@@ -93,13 +93,15 @@ public final class OneDrum {
     }
 
     public int text(int sort, int at) {
+        // The tape is taken whatever is answered, also where no text is read.
+        int length = now.tapeLength;
+        now.tapeLength = 0;
         now.faultKind = 0;
         now.faultPlace = NONE;
         if (!isSort(sort) || !mayStandAt(sort, at)) {
             return NO_SUCH;
         }
-        reader.read(now.tape, now.tapeLength, sort);
-        now.tapeLength = 0;
+        reader.read(now.tape, length, sort);
         if (reader.faultKind != 0) {
             now.faultKind = reader.faultKind;
             now.faultPlace = reader.faultPlace;

@@ -223,26 +223,33 @@ public final class TextsTest {
         faults(3, "turn 1;", 1, 0);
     }
 
+    /** No text is read, but the tape is taken: what is fed next comes behind an empty one. */
+    private static void refuses(OneDrum x, String why, int sort, int at) {
+        int before = x.count(0);
+        CHECK.due(why, Check.text(x, sort, at, "turn 9;"), -2);
+        CHECK.due(why + ": fault 0", x.fault(0), 0);
+        CHECK.due(why + ": no place", x.fault(1), NONE);
+        CHECK.due(why + ": no text came", x.count(0), before);
+        CHECK.due(why + ": nothing is left of the tape", x.end(1), NONE);
+        CHECK.due(why + ": twenty bytes behind none", x.feed(0, 0, 0, 0, 0), 20);
+        CHECK.due(why + ": an empty tape to go on with", x.end(0), 0);
+    }
+
     private static void places() {
         OneDrum x = new OneDrum();
-        Check.feed(x, "turn 2;".getBytes());
-        CHECK.due("no sort -1", x.text(-1, NONE), -2);
-        CHECK.due("no sort 4", x.text(4, NONE), -2);
-        CHECK.due("none at 0", x.text(0, 0), -2);
-        CHECK.due("none at -2", x.text(0, -2), -2);
-        CHECK.due("no text was read: the tape stays", x.end(7), 7);
-        CHECK.due("a first one", x.text(0, NONE), 0);
+        refuses(x, "no sort -1", -1, NONE);
+        refuses(x, "no sort 4", 4, NONE);
+        refuses(x, "none at 0", 0, 0);
+        refuses(x, "none at -2", 0, -2);
+        CHECK.due("a first one", Check.text(x, 0, NONE, "turn 2;"), 0);
         CHECK.due("a second one", Check.text(x, 0, NONE, "turn 3;order 0 left tap;wet tap roll;place 1 3;"), 1);
         CHECK.due("a fault", Check.text(x, 0, 1, "turn 9;"), NONE);
         CHECK.due("fault", x.fault(0), 2);
         CHECK.due("place", x.fault(1), 5);
         CHECK.due("the old one stays", x.war(1, 0), 3);
         CHECK.due("and its orders", x.war(1, 60), 1);
-        CHECK.due("a third one", Check.text(x, 0, NONE, "turn 9;"), -2);
-        CHECK.due("fault 0 then", x.fault(0), 0);
-        CHECK.due("no place then", x.fault(1), NONE);
-        CHECK.due("the tape stays", x.end(0), 0);
-        CHECK.due("none at 2", x.text(0, 2), -2);
+        refuses(x, "a third one", 0, NONE);
+        refuses(x, "none at 2", 0, 2);
         CHECK.due("in the place of one", Check.text(x, 0, 1, "tired 4;"), 1);
         CHECK.due("count", x.count(0), 2);
         CHECK.due("a new turn", x.war(1, 0), 1);
