@@ -30,7 +30,7 @@ public final class ModelTest {
 
     // texts
 
-    private static int below(int n) {
+    static int below(int n) {
         return RANDOM.nextInt(n);
     }
 
@@ -98,7 +98,7 @@ public final class ModelTest {
         }
     }
 
-    private static String spoiled(String text) {
+    static String spoiled(String text) {
         StringBuilder out = new StringBuilder(text);
         String signs = " \n;0123az\t" + (char) 200 + "A";
         for (int i = below(3); i >= 0; i--) {
@@ -117,7 +117,7 @@ public final class ModelTest {
         return out.toString();
     }
 
-    private static String anyText(int sort, int lines, int slack) {
+    static String anyText(int sort, int lines, int slack) {
         StringBuilder out = new StringBuilder();
         for (int i = 0; i < lines; i++) {
             String next = line(sort, i, slack);
