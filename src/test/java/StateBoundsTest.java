@@ -1,0 +1,175 @@
+import java.lang.reflect.InvocationTargetException;
+import java.lang.reflect.Method;
+import java.lang.reflect.Modifier;
+import java.util.ArrayList;
+import java.util.Arrays;
+import java.util.Collections;
+import java.util.Comparator;
+import java.util.List;
+import java.util.Random;
+
+/** What is asked changes nothing, and what was told before, or refused, leaves nothing behind. */
+public final class StateBoundsTest {
+    private static final int NONE = OneDrum.NONE;
+    private static final Check CHECK = new Check();
+    private static final List<String> TELLING = List.of("feed", "end", "text", "image", "again");
+    private static final int ASKS_OF_EACH = 60;
+    /** So few that an object's 512 calls are enough for the texts too. */
+    private static final int ASKS_AT_ONCE = 120;
+    /** The numbers that calls name things by. */
+    private static final int[] NUMBERS = {0, 1, 0, 1, 0, 1, 0, 1, 0, NONE, NONE, 2, 2, 3, 3, 4, 5, 6, 7, 10, 11, 12, 13, 14,
+        20, 21, 22, 24, 30, 40, 60};
+    /** Two of each sort, few of all that there may be many of. */
+    private static final String[][] TEXTS = {
+        {"order 0 left tap;order 1 right flam tap;place 1 3;", "turn 2;echo 1;order 0 charge tap;order 0 left tap flam;order 1 left rest;"},
+        {"gives 0 tap flam;gives 1 tap rest;", "gives 1 flam tap rest;"},
+        {"made 0 left left;", "made 0;made 1 left;"},
+        {"last 8;twice 0 tap;", "drop 8 2;"}};
+    /** Two of each sort, as many of all as there may be. */
+    private static final String[][] FULL = {
+        {"turn 4;tired 7;echo 3;wet rest flam;wet roll rest;from 0 3;from 1 2;step 0 4;step 1 3;lag 0 3;lag 1 2;place 0 20;place 1 19;"
+            + "order 0 right tap flam roll tap;".repeat(6) + "order 1 charge tap;".repeat(6),
+            "echo 9;wet tap flam;step 1 2;lag 0 1;place 0 9;" + "order 0 halt tap;".repeat(6) + "order 1 halt flam tap;".repeat(6)},
+        {Check.gives(Check.times(12, "flam"), Check.times(12, "tap")), Check.gives(Check.times(12, "rest"), Check.times(12, "flam"))},
+        {"made 0" + Check.times(6, "halt") + ";made 1" + Check.times(6, "charge") + ";", "made 0 left;made 1" + Check.times(6, "halt") + ";"},
+        {"twice 8 tap;twice 0 flam;swap 1 tap flam;drop 2 3;twice 3 tap;last 4;last 5;last 6;", "twice 8 flam;".repeat(8)}};
+
+    public static void main(String[] args) {
+        Sentences.run(StateBoundsTest.class, CHECK);
+    }
+
+    private record Ask(Method method, Object[] given) {
+        long of(OneDrum x) {
+            try {
+                return ((Number) method.invoke(x, given)).longValue();
+            } catch (IllegalAccessException | InvocationTargetException e) {
+                throw new IllegalStateException(toString(), e);
+            }
+        }
+
+        @Override
+        public String toString() {
+            return method.getName() + Arrays.toString(given);
+        }
+    }
+
+    /** Calls of all that ask, by a fixed seed. */
+    private static List<Ask> asks() {
+        Method[] methods = OneDrum.class.getDeclaredMethods();
+        Arrays.sort(methods, Comparator.comparing(Method::getName));
+        Random random = new Random(10);
+        List<Ask> all = new ArrayList<>();
+        for (int i = 0; i < ASKS_OF_EACH; i++) {
+            for (Method method : methods) {
+                boolean asks = Modifier.isPublic(method.getModifiers()) && !TELLING.contains(method.getName());
+                if (asks) {
+                    all.add(new Ask(method, any(method, random)));
+                }
+            }
+        }
+        return all;
+    }
+
+    private static Object[] any(Method method, Random random) {
+        Object[] given = new Object[method.getParameterCount()];
+        for (int i = 0; i < given.length; i++) {
+            boolean isNumber = method.getParameterTypes()[i] == int.class;
+            given[i] = isNumber ? (Object) NUMBERS[random.nextInt(NUMBERS.length)] : (Object) random.nextBoolean();
+        }
+        return given;
+    }
+
+    private static void tell(OneDrum x, String[][] texts, boolean inPlace) {
+        for (int sort = 0; sort < 4; sort++) {
+            for (int k = 0; k < 2; k++) {
+                Check.text(x, sort, inPlace ? k : NONE, texts[sort][k]);
+            }
+        }
+    }
+
+    private static OneDrum plain() {
+        OneDrum x = new OneDrum();
+        tell(x, TEXTS, false);
+        return x;
+    }
+
+    /** An object that was told the same in the end. */
+    private interface History {
+        OneDrum lived();
+    }
+
+    private static void answersAsPlain(History history, boolean backwards) {
+        List<Ask> all = asks();
+        if (backwards) {
+            Collections.reverse(all);
+        }
+        OneDrum x = history.lived();
+        for (int i = 0; i < all.size(); i++) {
+            if (i % ASKS_AT_ONCE == 0) {
+                x = history.lived();
+            }
+            CHECK.due(all.get(i).toString(), all.get(i).of(x), all.get(i).of(plain()));
+        }
+    }
+
+    @Says(in = "Not promised", words = "Nothing is promised beyond the answers and state changes described above")
+    static void notPromised_whatIsAskedChangesNothing() {
+        answersAsPlain(StateBoundsTest::plain, false);
+        answersAsPlain(StateBoundsTest::plain, true);
+    }
+
+    private static OneDrum inPlaceOfFull() {
+        OneDrum x = new OneDrum();
+        tell(x, FULL, false);
+        for (Ask ask : asks().subList(0, 60)) {
+            ask.of(x);
+        }
+        tell(x, TEXTS, true);
+        return x;
+    }
+
+    @Says(in = "Promise 4", words = "or in the place of one: its number")
+    static void promise4_nothingIsLeftOfWhatStoodInThePlace() {
+        for (int sort = 0; sort < 4; sort++) {
+            CHECK.fine(sort, FULL[sort][0]);
+            CHECK.fine(sort, FULL[sort][1]);
+        }
+        answersAsPlain(StateBoundsTest::inPlaceOfFull, false);
+    }
+
+    private static OneDrum behindFaults() {
+        OneDrum x = new OneDrum();
+        for (int sort = 0; sort < 4; sort++) {
+            for (int k = 0; k < 2; k++) {
+                Check.text(x, sort, NONE, FULL[sort][k] + "x");
+                Check.text(x, sort, NONE, TEXTS[sort][k]);
+                Check.text(x, sort, k, FULL[sort][1 - k] + "#");
+                Check.text(x, sort, 2, FULL[sort][k]);
+            }
+            Check.text(x, sort, NONE, FULL[sort][0]);
+        }
+        return x;
+    }
+
+    @Says(in = "Promise 4", words = {"NONE: a FAULT", "(no text is read then, FAULT 0)"})
+    static void promise4_nothingIsLeftOfFaultsAndOfWhatWasRefused() {
+        answersAsPlain(StateBoundsTest::behindFaults, false);
+    }
+
+    private static OneDrum againAsBefore() {
+        OneDrum x = plain();
+        x.image(1);
+        tell(x, FULL, true);
+        x.image(0);
+        for (Ask ask : asks().subList(60, 120)) {
+            ask.of(x);
+        }
+        x.again(1);
+        return x;
+    }
+
+    @Says(in = "Promise 32", words = "All that is as image k has it")
+    static void promise32_allIsAnsweredAsTheImageHasIt() {
+        answersAsPlain(StateBoundsTest::againAsBefore, false);
+    }
+}
