@@ -90,7 +90,8 @@ public final class Promise17To24BoundsTest {
 
     @Says(in = "Promise 19", words = "FAR of two ORDERS of an ARMY")
     static void promise19_farOfTheFirstAndTheLastOrders() {
-        OneDrum x = Check.with("order 0 left tap;".repeat(5) + "order 0 left roll roll roll roll;order 1 left flam;order 1 left flam tap;", "");
+        OneDrum x = Check.with("order 0 left tap;".repeat(5) + "order 0 left roll roll roll roll;"
+            + "order 1 left flam;order 1 left flam tap;", "");
         CHECK.due("0 and 5", x.far(0, 0, 0, 5), 4);
         CHECK.due("5 and 0", x.far(0, 0, 5, 0), 4);
         CHECK.due("5 and 5", x.far(0, 0, 5, 5), 0);

@@ -262,7 +262,8 @@ public final class Promise9To16BoundsTest {
 
     @Says(in = "Promise 14", words = "FORCE: the first row, as a number (NONE: none)")
     static void promise14_theFirstRowOrNone() {
-        OneDrum x = Check.with("turn 3;order 0 left roll roll roll;order 1 left tap;order 1 right rest;order 1 right flam;order 1 right roll;", "");
+        OneDrum x = Check.with("turn 3;order 0 left roll roll roll;"
+            + "order 1 left tap;order 1 right rest;order 1 right flam;order 1 right roll;", "");
         for (int n = 0; n <= 3; n++) {
             CHECK.due("by " + n, x.force(0, 0, LEFT, n, false), n == 3 ? 63 : NONE);
             CHECK.due("no such ORDER, by " + n, x.force(0, 0, 0, n, false), NONE);

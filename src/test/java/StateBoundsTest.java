@@ -13,16 +13,14 @@ public final class StateBoundsTest {
     private static final int NONE = OneDrum.NONE;
     private static final Check CHECK = new Check();
     private static final List<String> TELLING = List.of("feed", "end", "text", "image", "again");
-    private static final int ASKS_OF_EACH = 60;
+    private static final int ASKS_OF_EACH = 120;
     /** So few that an object's 512 calls are enough for the texts too. */
     private static final int ASKS_AT_ONCE = 120;
-    /** The numbers that calls name things by. */
-    private static final int[] NUMBERS = {0, 1, 0, 1, 0, 1, 0, 1, 0, NONE, NONE, 2, 2, 3, 3, 4, 5, 6, 7, 10, 11, 12, 13, 14,
-        20, 21, 22, 24, 30, 40, 60};
+    private static final int[] WHATS = {0, 1, 2, 10, 11, 12, 13, 14, 20, 21, 22, 23, 24, 30, 31, 40, 50, 51, 60, 61};
     /** Two of each sort, few of all that there may be many of. */
     private static final String[][] TEXTS = {
         {"order 0 left tap;order 1 right flam tap;place 1 3;", "turn 2;echo 1;order 0 charge tap;order 0 left tap flam;order 1 left rest;"},
-        {"gives 0 tap flam;gives 1 tap rest;", "gives 1 flam tap rest;"},
+        {"gives 0 tap flam;gives 1 tap rest;", "gives 1 flam rest tap;"},
         {"made 0 left left;", "made 0;made 1 left;"},
         {"last 8;twice 0 tap;", "drop 8 2;"}};
     /** Two of each sort, as many of all as there may be. */
@@ -31,7 +29,8 @@ public final class StateBoundsTest {
             + "order 0 right tap flam roll tap;".repeat(6) + "order 1 charge tap;".repeat(6),
             "echo 9;wet tap flam;step 1 2;lag 0 1;place 0 9;" + "order 0 halt tap;".repeat(6) + "order 1 halt flam tap;".repeat(6)},
         {Check.gives(Check.times(12, "flam"), Check.times(12, "tap")), Check.gives(Check.times(12, "rest"), Check.times(12, "flam"))},
-        {"made 0" + Check.times(6, "halt") + ";made 1" + Check.times(6, "charge") + ";", "made 0 left;made 1" + Check.times(6, "halt") + ";"},
+        {"made 0" + Check.times(6, "halt") + ";made 1" + Check.times(6, "charge") + ";",
+            "made 0 left;made 1" + Check.times(6, "halt") + ";"},
         {"twice 8 tap;twice 0 flam;swap 1 tap flam;drop 2 3;twice 3 tap;last 4;last 5;last 6;", "twice 8 flam;".repeat(8)}};
 
     public static void main(String[] args) {
@@ -70,11 +69,50 @@ public final class StateBoundsTest {
         return all;
     }
 
+    /** For each number that a call is given the most that it is here; k may be NONE too, w is one of WHATS. */
+    private static String numbersOf(String call) {
+        switch (call) {
+            case "fault": return "1";
+            case "war": return "1w";
+            case "order": return "113w";
+            case "given": case "told": return "11k";
+            case "row": return "11k3";
+            case "heard": return "111k";
+            case "made": return "111k3";
+            case "march": return "1119";
+            case "force": return "1142";
+            case "fix": return "1114";
+            case "bribes": return "1112";
+            case "meant": return "1113";
+            case "truce": return "144";
+            case "far": return "1111";
+            case "shared": return "1k";
+            case "village": return "1k4";
+            case "version": return "1111k";
+            case "tale": return "1111";
+            case "drawn": return "1199w";
+            case "common": return "112";
+            case "count": return "3";
+            default: return "111";
+        }
+    }
+
+    private static int any(char most, Random random) {
+        if (most == 'w') {
+            return WHATS[random.nextInt(WHATS.length)];
+        }
+        return most == 'k' ? random.nextInt(5) - 1 : random.nextInt(most - '0' + 1);
+    }
+
     private static Object[] any(Method method, Random random) {
-        Object[] given = new Object[method.getParameterCount()];
+        Class<?>[] types = method.getParameterTypes();
+        Object[] given = new Object[types.length];
         for (int i = 0; i < given.length; i++) {
-            boolean isNumber = method.getParameterTypes()[i] == int.class;
-            given[i] = isNumber ? (Object) NUMBERS[random.nextInt(NUMBERS.length)] : (Object) random.nextBoolean();
+            if (types[i] == int.class) {
+                given[i] = any(numbersOf(method.getName()).charAt(i), random);
+            } else {
+                given[i] = random.nextBoolean();
+            }
         }
         return given;
     }

@@ -106,6 +106,12 @@ public final class Term2BoundsTest {
     static void term2_thereIsNoEchoByEcho0() {
         echoAt(Check.with("echo 0;", "gives 0 flam rest flam rest rest;"), 5, NONE);
         echoAt(Check.with("", "gives 0 flam rest flam rest rest;"), 5, NONE);
+        OneDrum x = Check.with("order 0 left tap;", "gives 0 flam rest;");
+        Check.text(x, 0, NONE, "echo 1;order 0 left tap;");
+        CHECK.due("an echo in another WAR", x.row(1, 0, 1, 3), 1);
+        CHECK.due("none in this one", x.row(0, 0, 1, 3), 0);
+        CHECK.due("ECHOED in another WAR", x.made(1, 0, 0, NONE, 2), 1);
+        CHECK.due("none in this one", x.made(0, 0, 0, NONE, 2), 0);
     }
 
     @Says(in = "Term 2", words = "at the place ECHO behind it, if there is one and a REST sounds there")

@@ -209,6 +209,11 @@ public final class Term3BoundsTest {
             truce(war + " roll roll roll roll;", LEFT, RIGHT, 5, 511);
         }
         truce("order 0 left tap tap;order 1 right roll roll roll roll;", LEFT, RIGHT, NONE, NONE);
+        OneDrum behindOthers = Check.withHearing("order 0 left tap;order 1 right roll;", taps(2, 2), "");
+        behindOthers.force(0, 1, RIGHT, 3, true);
+        behindOthers.meant(0, 0, 0, 5, false);
+        CHECK.due("GIVER 0 alone, whoever gave before", behindOthers.truce(0, LEFT, RIGHT, false), 2);
+        CHECK.due("its row", behindOthers.truce(0, LEFT, RIGHT, true), 7);
         truce("order 0 left tap;from 1 3;order 1 right roll roll;", LEFT, RIGHT, 5, 31);
         truce("order 0 left tap;from 1 3;order 1 right roll roll roll;", LEFT, RIGHT, NONE, NONE);
         truce("order 0 left rest;order 1 right rest;", LEFT, RIGHT, 1, 0);

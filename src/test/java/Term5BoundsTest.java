@@ -83,6 +83,7 @@ public final class Term5BoundsTest {
             OneDrum x = Check.with(orders.replace("order", "order " + army), score);
             CHECK.due(orders + score + " READINGS", x.readings(0, 0, army, false), ways);
             CHECK.due(orders + score + " fewest", x.readings(0, 0, army, true), few);
+            CHECK.due(orders + score + " once more", x.readings(0, 0, army, false), ways);
         }
     }
 
@@ -176,6 +177,8 @@ public final class Term5BoundsTest {
         unique("order left tap;order left tap flam;order left flam flam;order left flam roll;order left roll;", 3);
         unique("order left tap;order left tap tap tap tap;order left flam;order right flam;", 1);
         unique("order left tap;order left tap flam roll rest;order left flam roll rest flam;order left flam;", 5);
+        // 101 010 1 is 1 010 101
+        unique(orders("101", "010", "1"), 7);
         // 1001 3100 1310 013 100 is 100 1310 013 1001 3100
         unique(orders("013", "1310", "1001", "21", "100", "3100"), 18);
         // 0112 0001 2000 0112 0011 is 011 2000 120 0001 120 011
