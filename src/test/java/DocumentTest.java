@@ -1,35 +1,27 @@
 import java.lang.reflect.Method;
 import java.util.Map;
 import java.util.TreeMap;
-import java.util.regex.Matcher;
-import java.util.regex.Pattern;
 
-/** The sentences that the bounds' tests are of stand in the document, and none that names a bound is left out. */
+/** The words that the sentences' tests are of stand in the document, and no word of its Terms and Promises is left out. */
 public final class DocumentTest {
     private static final Check CHECK = new Check();
-    private static final Class<?>[] BOUNDS = {Term1BoundsTest.class, Term2BoundsTest.class, Term3BoundsTest.class,
+    private static final Class<?>[] TESTS = {Term1BoundsTest.class, Term2BoundsTest.class, Term3BoundsTest.class,
         Term4BoundsTest.class, Term5BoundsTest.class, Promise1To8BoundsTest.class, Promise9To16BoundsTest.class,
         Promise17To24BoundsTest.class, Promise25To32BoundsTest.class, StateBoundsTest.class};
-    private static final Pattern OF_A_PROMISE = Pattern.compile("NONE|-2|-1000|none such|no such|another|false|more than"
-        + "|below 0|not so many|not by|as many as may be|0 without|\\bNo\\b|no images|[0-9] \\.\\. [0-9]+");
-    private static final Pattern OF_A_TERM = Pattern.compile("[0-9] \\.\\. [0-9]+|at most|[0-9] to [0-9]+|\\(0|at first"
-        + "|as itself|if there (is|are)|if that is|if they are|if none|else|longer row|as long as|1 or 2 digits|one byte"
-        + "|[0-9]th |can't be|not a lesser|that is the first one|all the same|Later ones|further ones|nothing is told"
-        + "|0: none|ECHO not being 0|no echo comes|of several the least|of several the first|of one place|1 or more"
-        + "|as many as he has left|in place of|behind what he gave|none DANCED|none of which|what is more is lost");
     private final Document document = new Document();
     private final Map<String, boolean[]> marks = new TreeMap<>();
 
     public static void main(String[] args) {
         DocumentTest test = new DocumentTest();
-        for (Class<?> tests : BOUNDS) {
+        for (Class<?> tests : TESTS) {
             test.lookUp(tests);
         }
         for (int n = 1; n <= Document.TERMS; n++) {
-            test.noneIsLeftOut("Term " + n, OF_A_TERM);
+            test.noneIsLeftOut("Term " + n, 0);
         }
         for (int n = 1; n <= Document.PROMISES; n++) {
-            test.noneIsLeftOut("Promise " + n, OF_A_PROMISE);
+            // FaceTest is of the call that a promise begins with
+            test.noneIsLeftOut("Promise " + n, test.document.callOf(n).length());
         }
         CHECK.finish();
     }
@@ -48,20 +40,26 @@ public final class DocumentTest {
         }
     }
 
-    /** Each of the signs of a bound in a part stands in the words of some test. */
-    private void noneIsLeftOut(String part, Pattern signs) {
+    /** Each letter and each digit of a part, from one on, stands in the words of some test. */
+    private void noneIsLeftOut(String part, int from) {
         CHECK.of(part);
         String text = document.part(part);
-        CHECK.due("it stands in the document", !text.isEmpty(), true);
+        CHECK.due("it stands in the document", text.length() > from, true);
         boolean[] marked = marksOf(part);
-        Matcher sign = signs.matcher(text);
-        while (sign.find()) {
-            boolean has = false;
-            for (int i = sign.start(); i < sign.end(); i++) {
-                has |= marked[i];
+        StringBuilder leftOut = new StringBuilder();
+        for (int at = from; at < text.length(); at++) {
+            if (!marked[at]) {
+                leftOut.append(text.charAt(at));
+            } else if (!leftOut.isEmpty()) {
+                asTested(leftOut);
             }
-            int to = Math.min(text.length(), sign.end() + 40);
-            CHECK.due("a test of \"" + text.substring(Math.max(0, sign.start() - 40), to) + "\"", has, true);
         }
+        asTested(leftOut);
+    }
+
+    /** Signs alone, such as a full stop between the words of two tests, need no test. */
+    private static void asTested(StringBuilder leftOut) {
+        CHECK.due("words without a test: \"" + leftOut + "\"", leftOut.toString().matches(".*[A-Za-z0-9].*"), false);
+        leftOut.setLength(0);
     }
 }

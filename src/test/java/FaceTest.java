@@ -3,17 +3,13 @@ import java.lang.reflect.Field;
 import java.lang.reflect.Method;
 import java.lang.reflect.Modifier;
 import java.util.Arrays;
+import java.util.List;
 import java.util.Random;
 import java.util.TreeSet;
 
 /** The public face, and that no call throws, whatever it is given. */
 public final class FaceTest {
     private static final Check CHECK = new Check();
-    private static final String[] FACE = {"feed iiiii i", "end i i", "text ii i", "fault i i", "war ii i",
-        "order iiii i", "given iii i", "row iiii i", "heard iiii i", "made iiiii i", "march iiii i", "meets ii i",
-        "force iiiib i", "told iii i", "bribes iiii i", "meant iiiib i", "truce iiib i", "far iiii i",
-        "codes iii i", "shared ii i", "village iii i", "version iiiii i", "tale iiiib i", "drawn iiiii i",
-        "common iii i", "readings iiib l", "unique iib i", "fix iiiib i", "count i i", "image i b", "again i b"};
     private static final int[] NUMBERS = {0, 1, 0, 1, 0, 1, 2, -1, 3, 4, 5, 6, 7, 8, 10, 11, 12, 21, 24, 25, 40, 41,
         59, 60, 61, 600, -2, 1000, Integer.MAX_VALUE, Integer.MIN_VALUE, Integer.MAX_VALUE - 1};
 
@@ -25,27 +21,35 @@ public final class FaceTest {
         CHECK.finish();
     }
 
-    private static char letter(Class<?> type) {
-        return type.getName().charAt(0);
+    /** A call by its name and its types: "feed int int" and so on, what it answers behind. */
+    private static String told(Method method) {
+        StringBuilder out = new StringBuilder(method.getName());
+        for (Class<?> type : method.getParameterTypes()) {
+            out.append(' ').append(type.getName());
+        }
+        return out.append(": ").append(method.getReturnType().getName()).toString();
     }
 
-    private static String told(Method method) {
-        StringBuilder out = new StringBuilder(method.getName()).append(' ');
-        for (Class<?> type : method.getParameterTypes()) {
-            out.append(letter(type));
-        }
-        return out.append(' ').append(letter(method.getReturnType())).toString();
+    /** The same of a call of the document, which is as "int feed(int a, int b)". */
+    private static String told(String call) {
+        String[] parts = call.split("[ (]", 3);
+        String types = parts[2].replaceAll(" [a-z]+[,)]", "").replaceAll("\\)", "");
+        return parts[1] + " " + types + ": " + parts[0];
     }
 
     private static void face() {
-        TreeSet<String> due = new TreeSet<>(Arrays.asList(FACE));
+        Document document = new Document();
+        TreeSet<String> due = new TreeSet<>();
+        for (String call : document.calls()) {
+            due.add(told(call));
+        }
         TreeSet<String> got = new TreeSet<>();
         for (Method method : OneDrum.class.getDeclaredMethods()) {
             if (!Modifier.isPrivate(method.getModifiers())) {
                 got.add(told(method));
             }
         }
-        CHECK.due("the methods are " + got, got.equals(due), true);
+        CHECK.due("the methods are " + got + ", due are " + due, got.equals(due), true);
         for (Field field : OneDrum.class.getDeclaredFields()) {
             boolean isNone = field.getName().equals("NONE");
             CHECK.due(field.getName() + " is private", Modifier.isPrivate(field.getModifiers()), !isNone);
@@ -55,7 +59,19 @@ public final class FaceTest {
         CHECK.due("without parameters", constructors[0].getParameterCount(), 0);
         CHECK.due("public", Modifier.isPublic(constructors[0].getModifiers()), true);
         CHECK.due("final", Modifier.isFinal(OneDrum.class.getModifiers()), true);
+        CHECK.due("public", Modifier.isPublic(OneDrum.class.getModifiers()), true);
         CHECK.due("NONE", OneDrum.NONE, -1);
+        eachCallIsPromised(document);
+    }
+
+    /** The face's calls are those that the promises begin with, in their order; the first promise is of the constructor. */
+    private static void eachCallIsPromised(Document document) {
+        List<String> calls = document.calls();
+        CHECK.due("as many calls as promises behind the first", calls.size(), Document.PROMISES - 1);
+        CHECK.due("promise 1", document.callOf(1).equals("`OneDrum()`:"), true);
+        for (int k = 0; k < calls.size(); k++) {
+            CHECK.due("promise " + (k + 2), document.callOf(k + 2).equals("`" + calls.get(k) + "`:"), true);
+        }
     }
 
     private static OneDrum full(Random random) {

@@ -106,7 +106,7 @@ public final class Promise1To8BoundsTest {
 
     // Promise 2
 
-    @Says(in = "Promise 2", words = "twenty bytes come behind it, of each number the highest first")
+    @Says(in = "Promise 2", words = "The tape: twenty bytes come behind it, of each number the highest first")
     static void promise2_twentyBytesComeBehindTheHighestOfEachNumberFirst() {
         OneDrum x = new OneDrum();
         // "turn 3;tired 7;echo " and "9;place 1 20;from 1 " and "2;"
@@ -254,6 +254,20 @@ public final class Promise1To8BoundsTest {
         isEmpty(x, "as many as may be");
         x.text(0, 0);
         CHECK.due("an empty tape is an empty text", x.war(0, 60), 0);
+    }
+
+    @Says(in = "Promise 4", words = "as a text of a sort")
+    static void promise4_aTextIsReadAsOneOfItsSort() {
+        for (int sort = 0; sort < 4; sort++) {
+            for (int of = 0; of < 4; of++) {
+                OneDrum x = new OneDrum();
+                CHECK.due("'" + TEXTS[of] + "' as sort " + sort, Check.text(x, sort, NONE, TEXTS[of]), of == sort ? 0 : NONE);
+                fault(x, "'" + TEXTS[of] + "' as sort " + sort, of == sort ? 0 : 1, of == sort ? NONE : 0);
+                for (int any = 0; any < 4; any++) {
+                    CHECK.due("how many of sort " + any, x.count(any), any == sort && any == of ? 1 : 0);
+                }
+            }
+        }
     }
 
     @Says(in = "Promise 4", words = {"a further one (at NONE)", "its number"})

@@ -156,6 +156,43 @@ public final class StateBoundsTest {
         answersAsPlain(StateBoundsTest::plain, true);
     }
 
+    /** What a call of the document is given, by name: war, score and so on. */
+    private static String[] namesOf(String call) {
+        for (String each : new Document().calls()) {
+            if (each.contains(" " + call + "(")) {
+                return each.replaceAll(".*\\(|\\)|int |boolean ", "").split(", ");
+            }
+        }
+        throw new IllegalStateException("the document has no " + call);
+    }
+
+    /** Of each sort the one alone that a call names, as the first one. */
+    private static Ask ofThoseAlone(Ask ask, OneDrum x) {
+        Object[] given = ask.given().clone();
+        String[] names = namesOf(ask.method().getName());
+        for (int i = 0; i < given.length; i++) {
+            int sort = List.of("war", "score", "hearing", "villages").indexOf(names[i]);
+            if (sort >= 0) {
+                Check.text(x, sort, NONE, TEXTS[sort][(Integer) given[i]]);
+                given[i] = 0;
+            }
+        }
+        return new Ask(ask.method(), given);
+    }
+
+    @Says(in = "Term 1", words = {"WARS, at most 2 (sort 0), SCORES, at most 2 (1), HEARINGS, at most 2 (2), ",
+        "rows of VILLAGES, at most 2 (3), from 0 on"})
+    static void term1_eachCallGoesByThoseThatItNames() {
+        for (Ask ask : asks()) {
+            boolean ofOthers = List.of("count", "fault").contains(ask.method().getName());
+            if (!ofOthers) {
+                OneDrum x = new OneDrum();
+                long alone = ofThoseAlone(ask, x).of(x);
+                CHECK.due(ask.toString(), ask.of(plain()), alone);
+            }
+        }
+    }
+
     private static OneDrum inPlaceOfFull() {
         OneDrum x = new OneDrum();
         tell(x, FULL, false);

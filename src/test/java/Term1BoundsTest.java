@@ -59,7 +59,7 @@ public final class Term1BoundsTest {
         CHECK.due("war(0, " + what + ") in place of another", x.war(0, what), due);
     }
 
-    @Says(in = "Term 1", words = "TURN, 1 .. 4")
+    @Says(in = "Term 1", words = "A WAR has TURN, 1 .. 4")
     static void term1_turnIsFrom1To4() {
         numbersOfWar("turn ", 1, 4, 0);
     }
@@ -150,6 +150,21 @@ public final class Term1BoundsTest {
                     CHECK.faulty(sorts[i], ahead[i] + n + behind[i], 2, ahead[i].length());
                 }
             }
+        }
+    }
+
+    @Says(in = "Term 1", words = "GIVERS are 0 and 1, each an ARMY's")
+    static void term1_eachGiverIsTheArmysOfHisNumber() {
+        for (int giver = 0; giver < 2; giver++) {
+            OneDrum x = Check.with("order 0 left tap;order 1 left tap;", "gives " + giver + " tap;");
+            CHECK.due("given by " + giver, x.row(0, 0, 0, 1), giver);
+            CHECK.due("PURE for his own ARMY", x.made(0, 0, giver, 0, 3), 0);
+            CHECK.due("FOREIGN for the other one", x.made(0, 0, 1 - giver, 0, 3), 2);
+            // what GIVER 1 gives first stands at place 1, which alone is heard
+            OneDrum y = Check.with("from 0 " + giver + ";from 1 " + giver + ";step 0 2;step 1 2;"
+                + "order 0 left tap;order 1 left tap;", "");
+            CHECK.due("forced by the ARMY whose GIVER he is", y.force(0, giver, 1, 1, false), 1);
+            CHECK.due("not by the other one", y.force(0, 1 - giver, 1, 1, false), NONE);
         }
     }
 
@@ -258,7 +273,7 @@ public final class Term1BoundsTest {
         }
     }
 
-    @Says(in = "Term 1", words = "0 DROP n, 1 .. 9")
+    @Says(in = "Term 1", words = "a CHANGE: 0 DROP n, 1 .. 9")
     static void term1_dropIsOfFrom1To9() {
         for (int n = 0; n < 100; n++) {
             String text = "drop 8 " + n + ";";

@@ -54,6 +54,24 @@ public final class Term2BoundsTest {
         CHECK.due(name + ": none behind", x.row(0, 0, due.length(), 1), -2);
     }
 
+    private static void rowIs(OneDrum x, int war, int score, String due) {
+        CHECK.due("length of " + score + " in " + war, x.row(war, score, NONE, 0), due.length());
+        for (int k = 0; k < due.length(); k++) {
+            CHECK.due("BEAT " + k + " of " + score + " in " + war, x.row(war, score, k, 0), due.charAt(k) - '0');
+        }
+    }
+
+    @Says(in = "Term 2", words = "The ROW of a SCORE in a WAR")
+    static void term2_theRowIsOfThatScoreInThatWar() {
+        OneDrum x = Check.with("turn 1;", "gives 0 tap tap;gives 1 roll roll;");
+        Check.text(x, 0, NONE, "turn 2;");
+        Check.text(x, 1, NONE, "gives 0 flam flam;gives 1 rest rest rest;");
+        rowIs(x, 0, 0, "1313");
+        rowIs(x, 1, 0, "1133");
+        rowIs(x, 0, 1, "20200");
+        rowIs(x, 1, 1, "22000");
+    }
+
     @Says(in = "Term 2", words = "by turns, GIVER 0 first, each gives his next TURN BEATS")
     static void term2_eachGivesTurnBeatsByTurns() {
         for (int turn = 1; turn <= 4; turn++) {
@@ -76,7 +94,7 @@ public final class Term2BoundsTest {
 
     // PLAYED
 
-    @Says(in = "Term 2", words = "places from 1 on, each that TIRED divides (0: none) is a REST")
+    @Says(in = "Term 2", words = "PLAYED: of the ROW, places from 1 on, each that TIRED divides (0: none) is a REST")
     static void term2_eachPlaceThatTiredDividesIsARest() {
         for (int tired = 0; tired <= 9; tired++) {
             OneDrum x = Check.with("tired " + tired + ";", Check.gives(Check.times(12, "roll"), Check.times(12, "roll")));
@@ -142,6 +160,18 @@ public final class Term2BoundsTest {
         CHECK.due("the first one's", each.row(0, 0, 1, 3), 1);
         CHECK.due("the second one's", each.row(0, 0, 3, 3), 1);
         played(each, 2, 1, 2, 1);
+    }
+
+    @Says(in = "Term 2", words = "an echo is heard: a TAP")
+    static void term2_anEchoIsATapThatIsHeard() {
+        OneDrum x = Check.with("echo 2;step 1 2;order 0 left flam roll tap;order 1 right flam tap;", "gives 0 flam roll rest;");
+        CHECK.due("a REST was given", x.row(0, 0, 2, 0), 0);
+        CHECK.due("a TAP is PLAYED", x.row(0, 0, 2, 2), 1);
+        CHECK.due("ARMY 0 hears it", x.heard(0, 0, 0, 2), 1);
+        CHECK.due("ARMY 1 hears it", x.heard(0, 0, 1, 1), 1);
+        made(x, 0, new int[] {0}, 0);
+        made(x, 1, new int[] {0}, 0);
+        played(Check.with("echo 2;wet tap roll;", "gives 0 flam roll rest;"), 2, 3, 1);
     }
 
     @Says(in = "Term 2", words = "(no echo comes of an echo)")

@@ -52,7 +52,7 @@ public final class Term3BoundsTest {
         force("turn 3;order 0 left tap flam roll;", 0, 3, 27, 1);
     }
 
-    @Says(in = "Term 3", words = "whatever the other one gives, that MOVE is among those MADE by the ARMY; none")
+    @Says(in = "Term 3", words = "by which, whatever the other one gives, that MOVE is among those MADE by the ARMY; none")
     static void term3_forceHoldsWhateverTheOtherOneGives() {
         force("order 0 left tap;", 0, 1, 1, 1);
         force("order 0 left tap;order 0 right tap roll;", 0, 1, NONE, 0);
@@ -86,6 +86,18 @@ public final class Term3BoundsTest {
 
     private static String taps(int zero, int one) {
         return Check.gives(Check.times(zero, "tap"), Check.times(one, "tap"));
+    }
+
+    @Says(in = "Term 3", words = "BRIBES by a HEARING")
+    static void term3_bribesAreByThatHearing() {
+        OneDrum x = Check.withHearing("order 0 left tap;", taps(3, 0), "made 0 left;");
+        Check.text(x, 2, NONE, "made 0 left left;");
+        int[][] due = {{3, 2, 3}, {3, 1, 1}};
+        for (int hearing = 0; hearing < 2; hearing++) {
+            for (int what = 0; what < 3; what++) {
+                CHECK.due("bribes(0, 0, " + hearing + ", " + what + ")", x.bribes(0, 0, hearing, what), due[hearing][what]);
+            }
+        }
     }
 
     @Says(in = "Term 3", words = "places of the ROW (bits; at most 12 BEATS)")

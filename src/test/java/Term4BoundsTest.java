@@ -18,7 +18,8 @@ public final class Term4BoundsTest {
         }
     }
 
-    @Says(in = "Term 4", words = "FAR of two ORDERS of an ARMY: the fewest BEATS to be put in, left out, or changed")
+    @Says(in = "Term 4", words = {"FAR of two ORDERS of an ARMY: the fewest BEATS to be put in, left out, or changed, ",
+        "by which the one's BEATS become the other's"})
     static void term4_farIsFrom0To4() {
         far("tap", "tap", 0);
         far("tap flam roll rest", "tap flam roll rest", 0);
@@ -173,6 +174,24 @@ public final class Term4BoundsTest {
         CHECK.due(villages + " LIKES of " + v, x.tale(0, 0, 0, v, true), likes);
     }
 
+    @Says(in = "Term 4", words = "VERSION: that")
+    static void term4_theVersionIsWhatTheVillageRepeatsOfThatScoreInThatWar() {
+        OneDrum x = Check.withVillages("", "gives 0 tap flam;", "swap 8 tap roll;");
+        Check.text(x, 0, NONE, "tired 1;");
+        Check.text(x, 1, NONE, "gives 0 tap tap tap;");
+        Check.text(x, 3, NONE, "last 8;twice 0 rest;");
+        // by WAR, SCORE, VILLAGES and the VILLAGE
+        String[] due = {"0000: 32", "0010: 1", "0011: 1", "0100: 333", "0110: 11", "1000: 00", "1011: 00", "1110: 00", "1111: 0000"};
+        for (String each : due) {
+            int[] of = each.substring(0, 4).chars().map(c -> c - '0').toArray();
+            String beats = each.substring(6);
+            CHECK.due("how many of " + each, x.version(of[0], of[1], of[2], of[3], NONE), beats.length());
+            for (int k = 0; k < beats.length(); k++) {
+                CHECK.due("BEAT " + k + " of " + each, x.version(of[0], of[1], of[2], of[3], k), beats.charAt(k) - '0');
+            }
+        }
+    }
+
     @Says(in = "Term 4", words = "FARNESS: FAR of it and what is PLAYED")
     static void term4_farnessIsOfTheVersionAndWhatIsPlayed() {
         tale("", "last 8;", 0, 0, 1);
@@ -229,7 +248,7 @@ public final class Term4BoundsTest {
         return calm;
     }
 
-    @Says(in = "Term 4", words = {"x becomes x * 1103515245 + 12345 (of 32 bits), ",
+    @Says(in = "Term 4", words = {"DRAWN by a SEED, x; a number below n is drawn: x becomes x * 1103515245 + 12345 (of 32 bits), ",
         "it is x shifted right by 16 without sign, remainder by n"})
     static void term4_whatIsDrawnIsOf32BitsWithoutSign() {
         for (int seed : SEEDS) {

@@ -13,7 +13,7 @@ public final class Term5BoundsTest {
         return Check.gives(Check.times(12, zero), Check.times(12, one));
     }
 
-    @Says(in = "Term 5", words = "`NONE = -1`: There is none")
+    @Says(in = "Term 5", words = "The constants: `NONE = -1`: There is none")
     static void term5_noneIsMinus1() {
         CHECK.due("NONE", OneDrum.NONE, -1);
     }
