@@ -48,6 +48,7 @@ public final class LanguageTest extends TreePathScanner<Void, Void> {
     private static final int PARAMETERS_MOST = 7;
     private static final int LINES_MOST = 60;
     private static final int DEEP_MOST = 8;
+    private static final int ENDLESS = 1000;
     /** What of the library the class calls; LANGUAGE.md has more, which may be put in here when it is used. */
     private static final Set<String> LIBRARY = Set.of("java.lang.Math.min", "java.lang.Math.max", "java.lang.Integer.signum",
         "java.lang.Integer.bitCount", "java.lang.System.arraycopy", "java.lang.String.length", "java.lang.String.charAt",
@@ -89,8 +90,8 @@ public final class LanguageTest extends TreePathScanner<Void, Void> {
         scan(unit, null);
         rule("11: " + classes + " classes", classes <= CLASSES_MOST);
         for (String method : calls.keySet()) {
-            int deep = deepness(method, 0);
-            rule("8: " + method + " calls itself", deep <= calls.size());
+            int deep = deepness(method, new TreeSet<>());
+            rule("8: " + method + " is in no recursion", deep < ENDLESS);
             rule("11: " + method + " goes " + deep + " deep", deep <= DEEP_MOST);
         }
     }
@@ -120,12 +121,16 @@ public final class LanguageTest extends TreePathScanner<Void, Void> {
         return element.toString().startsWith("OneDrum") || nameOf(element).startsWith("OneDrum");
     }
 
-    /** How deep the calls go that a method begins, itself among them; beyond all bounds if it calls itself. */
-    private int deepness(String method, int above) {
+    /** How deep the calls go that a method begins, itself among them; beyond all bounds if one of them calls one that is open. */
+    private int deepness(String method, Set<String> open) {
+        if (!open.add(method)) {
+            return ENDLESS;
+        }
         int most = 0;
         for (String called : calls.getOrDefault(method, Set.of())) {
-            most = Math.max(most, above > calls.size() ? above : deepness(called, above + 1));
+            most = Math.max(most, deepness(called, open));
         }
+        open.remove(method);
         return most + 1;
     }
 

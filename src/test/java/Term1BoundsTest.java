@@ -463,6 +463,9 @@ public final class Term1BoundsTest {
                     CHECK.faulty(sort, ahead + INTRUDERS[k] + " ;", 1, ahead.length());
                 }
             }
+            for (int number = 0; number < 100 && kinds.charAt(i) != 'N'; number++) {
+                CHECK.faulty(sort, ahead + number + " ;", 1, ahead.length());
+            }
             ahead += tokens[i] + " ";
         }
         CHECK.faulty(sort, ahead + ahead.strip().substring(0, ahead.length() - 2), 1, 2 * ahead.length() - 2);

@@ -111,6 +111,10 @@ public final class Term5BoundsTest {
         readings("order left tap;".repeat(6), full("tap", "tap"), 4738381338321616896L, 24);
         readings("order left tap;order left tap tap tap tap;", full("tap", "tap"), ways(24), 6);
         readings("order left tap tap tap tap;order left tap tap tap;", "gives 0 tap tap tap tap tap tap;", 1, 2);
+        // 1 2 30, and of fewer ORDERS, though it ends with a shorter one, 123 0
+        readings(orders("1", "2", "123", "30", "0"), "gives 0 tap flam roll rest;", 2, 2);
+        // 12 30, and of more ORDERS 12 3 0
+        readings(orders("12", "3", "0", "30"), "gives 0 tap flam roll rest;", 2, 2);
     }
 
     /** In how many ways so many are ones and fours. */
