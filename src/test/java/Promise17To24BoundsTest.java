@@ -306,6 +306,12 @@ public final class Promise17To24BoundsTest {
             CHECK.due("FARNESS of " + v, x.tale(0, 0, 0, v, false), far[v]);
             CHECK.due("LIKES of " + v, x.tale(0, 0, 0, v, true), likes[v]);
         }
+        OneDrum two = Check.withVillages("", "gives 0 tap flam;", "last 8;");
+        Check.text(two, 3, NONE, "last 8;swap 8 tap flam;drop 8 2;drop 8 1;");
+        CHECK.due("LIKES in the first row of VILLAGES", two.tale(0, 0, 0, 0, true), 1);
+        CHECK.due("LIKES in the second one", two.tale(0, 0, 1, 0, true), 5);
+        CHECK.due("FARNESS in the first one", two.tale(0, 0, 0, 0, false), 1);
+        CHECK.due("FARNESS in the second one", two.tale(0, 0, 1, 3, false), 2);
     }
 
     @Says(in = "Promise 24", words = "NONE: there is none such (of any)")

@@ -129,6 +129,18 @@ public final class Promise25To32BoundsTest {
         OneDrum nothing = Check.with("", "");
         CHECK.due("ways of nothing HEARD", nothing.readings(0, 0, 0, false), 1);
         CHECK.due("fewest of nothing HEARD", nothing.readings(0, 0, 0, true), 0);
+        OneDrum two = Check.with("order 0 left tap;", "gives 0 tap tap;");
+        Check.text(two, 0, NONE, "order 0 left tap tap;order 0 left tap;");
+        Check.text(two, 1, NONE, "gives 0 tap tap tap;");
+        // by WAR and SCORE
+        int[][] due = {{1, 1}, {2, 3}};
+        int[][] fewest = {{2, 3}, {1, 2}};
+        for (int war = 0; war < 2; war++) {
+            for (int score = 0; score < 2; score++) {
+                CHECK.due("ways of " + score + " in " + war, two.readings(war, score, 0, false), due[war][score]);
+                CHECK.due("fewest of " + score + " in " + war, two.readings(war, score, 0, true), fewest[war][score]);
+            }
+        }
     }
 
     @Says(in = "Promise 27", words = "-2: there is none such (of any)")
